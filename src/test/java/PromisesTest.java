@@ -172,6 +172,26 @@ public final class PromisesTest {
         faultsOfHatsAndWishes();
         faultsOfFerries();
         faultsOfTooMany();
+        faultsReadAgain();
+    }
+
+    /** What was only read is not there for the text that is read next. */
+    private static void faultsReadAgain() {
+        NumberFerries x = told("stone 1 0;exact 1 0 1 1");
+        for (int i = 0; i < 4; i++) {
+            put(x, "shore;person 1 0;hat 0 1");
+            due("fault()", x.fault(), NONE);
+            x.erase();
+            put(x, "hat 0 1");
+            due("fault()", x.fault(), 4);
+            x.erase();
+            put(x, "person 1 0;exact 1 0 1 1;exact 1 0 1 1");
+            due("fault()", x.fault(), NONE);
+            x.erase();
+            put(x, "unsure 1");
+            due("fault()", x.fault(), 7);
+            x.erase();
+        }
     }
 
     private static void faultsOfShore() {
@@ -193,6 +213,9 @@ public final class PromisesTest {
         fault("shores", 0);
         fault("7", 0);
         fault("shore;7", 6);
+        fault("xhore", 0);
+        fault("shorez", 0);
+        fault("shorea", 0);
         fault("shore;  cow", 8);
         fault("shore\n", 5);
         fault("shore\u0000", 5);
@@ -311,6 +334,8 @@ public final class PromisesTest {
         fault(three + ";exact 1 0 1 1", three.length() + 1);
         fault(three, " loose 1 0 1 1", 1);
         fault(three, "shore;loose 1 0 1 1", NONE);
+        fault(three, "shore;" + three, NONE);
+        fault(three, "shore;" + three + ";exact 1 0 1 1", three.length() + 7);
         String twelve = "shore;shore;shore;shore;shore;shore;shore;shore;shore;shore;shore;shore";
         fault(twelve, NONE);
         fault(twelve + ";", 71);
@@ -351,6 +376,20 @@ public final class PromisesTest {
         due("thing(0, 5)", x.thing(0, 5), 0);
         due("thing(0, 6)", x.thing(0, 6), 0);
         due("thing(0, 7)", x.thing(0, 7), 8);
+        put(x, "shore;child 9 0;exact 9 0 1 1");
+        due("shore()", x.shore(), 3);
+        due("right: it was a person once", x.right(0, 1), 0);
+        put(x, "shore;beast 9 0;person 9 0;loose 9 0 1 1");
+        due("shore()", x.shore(), 4);
+        due("thing: it had a hat once", x.thing(0, 4), 0);
+        due("doff: it had a hat once", x.doff(0), NOT);
+        due("sure: one of its place was unsure once", x.sure(0), 1);
+        put(x, "unsure 1");
+        due("shore()", x.shore(), 1);
+        due("sure(0)", x.sure(0), 1);
+        put(x, "shore;person 9 0;person 10 0;loose 9 0 1 1");
+        due("shore()", x.shore(), 4);
+        due("sure: no longer unsure", x.sure(0), 2);
         put(x, "shore;person 1 1;shore;stone 2 0;unsure 0;shore;beast 3 1");
         due("shore()", x.shore(), 7);
         due("count(0)", x.count(0), 1);
@@ -662,6 +701,9 @@ public final class PromisesTest {
         NumberFerries y = told("person 5 0;person 5 0;person 5 0;wish 2 1;wish 1 1;exact 5 0 1 1;exact 5 0 1 1");
         due("loads: of several the least", y.loads(0, 2), 2);
         due("loads(0, 3)", y.loads(0, 3), 1);
+        NumberFerries first = told("person 5 0;person 5 0;person 5 0;wish 0 9;wish 1 8;exact 5 0 1 1");
+        due("loads(0, 2)", first.loads(0, 2), 1);
+        due("loads(0, 3)", first.loads(0, 3), 9);
         NumberFerries z = told("person 5 0;person 5 0;exact 5 0 1 1");
         due("loads: no wishes at all", z.loads(0, 2), 1);
         due("loads(0, 3)", z.loads(0, 3), 0);
@@ -776,6 +818,8 @@ public final class PromisesTest {
         y.doff(0);
         due("stones: without the hat", y.stones(0, 1, 2), NONE);
         due("stones: without the hat", y.stones(1, 1, 3), 3);
+        NumberFerries z = told("person 11 0;loose 10 0 8 1");
+        due("stones: a pound more is right by itself", z.stones(0, 1, 1), 0);
     }
 
     private static void promise19() {

@@ -221,6 +221,7 @@ public final class RandomRunsTest {
             case 17: due("sure(" + f + ")", x.sure(f), plain.sure(f)); break;
             case 18: seen(f); break;
             case 19: { int i = odd(random.nextInt(6) - 1);
+                if (random.nextInt(4) == 0) wholeWay();
                 due("fewest(" + set + ", " + bank + ", " + i + ")", x.fewest(set, bank, i), plain.fewest(set, bank, i)); break; }
             case 20: due("soonest(" + set + ", " + bank + ")", x.soonest(set, bank), plain.soonest(set, bank)); break;
             case 21: rowMore(f, load); break;
@@ -238,6 +239,18 @@ public final class RandomRunsTest {
             due("row(" + f + ", " + load + ")", x.row(f, load), plain.row(f, load));
         }
         due("judge()", x.judge(), plain.judge());
+    }
+
+    /** All crossings of the longest way that can be asked for. */
+    private void wholeWay() {
+        int set = (1 << plain.count(0)) - 1;
+        int bank = random.nextInt(2);
+        if (plain.fewest(set, bank, -1) < 1) set = 1 << random.nextInt(8) & set;
+        int length = plain.fewest(set, bank, -1);
+        for (int i = -1; i <= length; i++) {
+            due("fewest(" + set + ", " + bank + ", " + i + ")", x.fewest(set, bank, i), plain.fewest(set, bank, i));
+        }
+        due("soonest(" + set + ", " + bank + ")", x.soonest(set, bank), plain.soonest(set, bank));
     }
 
     private void seen(int f) {
