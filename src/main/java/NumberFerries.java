@@ -719,7 +719,8 @@ public final class NumberFerries {
      * same, so what it leads to comes in order of cost: a queue for each of them is enough.
      */
     private static final class Search {
-        private static final int NEVER = Integer.MAX_VALUE;
+        /** Far above the dearest way: it comes to each banks once at most. */
+        private static final int NEVER = 1 << 20;
 
         private final River river;
         /** For each FERRY, from SETS times it on: the LOADS that are RIGHT on the BANK where it is. */

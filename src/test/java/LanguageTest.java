@@ -117,7 +117,7 @@ public final class LanguageTest {
                 "no import of " + imports.group(1));
         }
         Matcher library = Pattern.compile("\\b(Arrays|Integer|Math|Long)\\.(\\w+)").matcher(code);
-        Set<String> allowed = Set.of("Arrays.fill", "Integer.bitCount", "Integer.MAX_VALUE", "Math.abs");
+        Set<String> allowed = Set.of("Arrays.fill", "Integer.bitCount", "Math.abs");
         while (library.find()) must(allowed.contains(library.group()), library.group() + " is looked up");
         methodLengths(text.split("\n"));
     }

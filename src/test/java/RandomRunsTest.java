@@ -1,6 +1,9 @@
 import java.util.ArrayList;
 import java.util.List;
+import java.util.Objects;
 import java.util.Random;
+import java.util.stream.Collectors;
+import java.util.stream.IntStream;
 
 /** Long runs of calls drawn by a fixed seed, each answered by the class and by PlainFerries. */
 public final class RandomRunsTest {
@@ -13,7 +16,7 @@ public final class RandomRunsTest {
     private final NumberFerries x = new NumberFerries();
     private final PlainFerries plain = new PlainFerries();
     private final List<String> calls = new ArrayList<>();
-    private int wrong = 0;
+    private boolean wrong = false;
     /** How heavy things are in this run: light ones make many loads alike. */
     private final int heaviest;
 
@@ -23,16 +26,16 @@ public final class RandomRunsTest {
     }
 
     public static void main(String[] args) {
-        int wrong = 0;
-        for (int run = 0; run < RUNS && wrong < 5; run++) {
-            wrong += new RandomRunsTest(run).play(run);
-        }
-        System.out.println(RUNS + " runs of " + CALLS + " calls: " + wrong + " of them wrong");
-        if (wrong != 0) System.exit(1);
+        List<String> wrong = IntStream.range(0, RUNS).parallel().mapToObj(run -> new RandomRunsTest(run).play(run))
+            .filter(Objects::nonNull).collect(Collectors.toList());
+        for (int i = 0; i < wrong.size() && i < 5; i++) System.out.println(wrong.get(i));
+        System.out.println(RUNS + " runs of " + CALLS + " calls: " + wrong.size() + " of them wrong");
+        if (!wrong.isEmpty()) System.exit(1);
     }
 
-    private int play(int run) {
-        while (calls.size() < CALLS && wrong == 0) {
+    /** The run's calls up to its first wrong answer; null: there is none. */
+    private String play(int run) {
+        while (calls.size() < CALLS && !wrong) {
             if (random.nextInt(150) == 0 || calls.size() == 20) {
                 tellWorld();
             } else if (random.nextInt(60) == 0) {
@@ -41,17 +44,13 @@ public final class RandomRunsTest {
                 call(random.nextInt(25));
             }
         }
-        if (wrong != 0) {
-            System.out.println("run " + run + ":");
-            for (String call : calls) System.out.println("  " + call);
-        }
-        return wrong;
+        return wrong ? "run " + run + ":\n  " + String.join("\n  ", calls) : null;
     }
 
     private void due(String call, int got, int want) {
         calls.add(call + " answered " + got);
         if (got != want) {
-            wrong = 1;
+            wrong = true;
             calls.add("due is " + want);
         }
     }
